@@ -176,20 +176,21 @@ public final class TunerGame {
     }
 
     public int way(int k, int set, int what) {
-        if (!isDeed(k) || !isSet(set)) {
+        if (!isDeed(k) || !isSet(set) || what < 0 || what > 4) {
             return NO_WAY;
         }
         Plan plan = plans[k];
+        if (plan.writes) {
+            return WAY_OF_WRITE;
+        }
         plan.costWith(set, roomWith(set));
-        int answer = switch (what) {
+        return switch (what) {
             case 0 -> plan.accessMove;
             case 1 -> plan.found;
             case 2 -> plan.sortCost;
             case 3 -> plan.joinMove;
-            case 4 -> plan.joinCost;
-            default -> NO_WAY;
+            default -> plan.joinCost;
         };
-        return answer != NO_WAY && plan.writes ? WAY_OF_WRITE : answer;
     }
 
     public int best() {

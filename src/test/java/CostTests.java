@@ -249,6 +249,8 @@ public final class CostTests {
         for (int what = 0; what < 5; what++) {
             Due.is("way(1, 0, " + what + ") of a write", x.way(1, 0, what), -2);
         }
+        Due.is("a write, and no such what", x.way(1, 0, 5), -3);
+        Due.is("a write, and no such set", x.way(1, 4, 0), -3);
         Due.is("a set beyond the BUDGET", x.cost(3), 2);
         Due.is("a set beyond the BUDGET", x.deed(1, 3), 2);
     }
