@@ -4,7 +4,9 @@ import java.util.Random;
 
 /** Runs of calls by chance, always the same ones, held against the document written a second time (Model). */
 public final class ModelRuns {
-    private static final int RUNS = 400;
+    private static final int RUNS = 500;
+    /** A text may take some 100 calls more: an object is promised for 512. */
+    private static final int CALLS = 400;
     private static final int[] ODD = {-1, -2, 0, 16, 101, 801, 256, 65, Integer.MIN_VALUE, Integer.MAX_VALUE};
 
     private final Random chance;
@@ -31,7 +33,7 @@ public final class ModelRuns {
 
     private void go(int[] faults) {
         tell();
-        while (calls < 500) {
+        while (calls < CALLS) {
             switch (chance.nextInt(12)) {
                 case 0 -> read(faults);
                 case 1 -> tellMore();

@@ -1,16 +1,38 @@
+import java.util.function.Consumer;
+import java.util.function.Supplier;
+
 /** What the tests share: telling answers that are not due, and bringing a text onto the tape. */
 final class Due {
     private static int wrong = 0;
     private static int asked = 0;
+    private static int sentences = 0;
+    private static String sentence = "";
+    private static int askedAtSentence = 0;
 
     private Due() {
+    }
+
+    /** What follows, up to the next one, tests these words of the document. */
+    static void sentence(String words) {
+        endSentence();
+        sentences++;
+        sentence = "'" + words + "': ";
+        askedAtSentence = asked;
+    }
+
+    /** A sentence of which nothing was asked has no test. */
+    private static void endSentence() {
+        if (sentences > 0 && asked == askedAtSentence) {
+            wrong++;
+            System.out.println(sentence + "nothing was asked");
+        }
     }
 
     static void is(String call, long got, long want) {
         asked++;
         if (got != want) {
             wrong++;
-            System.out.println(call + " answered " + got + ", due is " + want);
+            System.out.println(sentence + call + " answered " + got + ", due is " + want);
         }
     }
 
@@ -19,9 +41,24 @@ final class Due {
     }
 
     static void end() {
-        System.out.println(wrong == 0 ? "all " + asked + " answers are as due" : wrong + " answers are not as due");
+        endSentence();
+        String all = sentences == 0 ? "" : " of " + sentences + " sentences";
+        System.out.println(wrong == 0 ? "all " + asked + " answers" + all + " are as due" : wrong + " answers are not as due");
         if (wrong != 0) {
             System.exit(1);
+        }
+    }
+
+    /** Nothing happens: an object with these calls can't be told from one without them. */
+    static void nothing(String calls, Supplier<TunerGame> maker, Consumer<TunerGame> refused) {
+        TunerGame with = maker.get();
+        refused.accept(with);
+        String seen = Seen.of(with);
+        String want = Seen.of(maker.get());
+        asked++;
+        if (!seen.equals(want)) {
+            wrong++;
+            System.out.println(sentence + "something happened by " + calls + ":\n  " + seen + "\n  " + want);
         }
     }
 
