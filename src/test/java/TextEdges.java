@@ -357,19 +357,26 @@ public final class TextEdges {
         Due.sentence("FAULTS, the first by its place");
         TunerGame x = told();
         Due.fault(x, "ask ask share share", 1, 4);
-        for (String[] whole : new String[][] {WHOLE_ASK, WHOLE_WRITE}) {
-            StringBuilder ahead = new StringBuilder(whole[0]).append(' ');
-            for (int n = 1; n < whole.length; n++) {
-                Due.fault(told(), ahead + "ask share 1 from 0; x", 1, ahead.length());
-                Due.fault(told(), ahead + "write x", 1, ahead.length());
-                ahead.append(whole[n]).append(' ');
-            }
-        }
+        firstOfTwo(WHOLE_ASK, MAY_COME_IN_ASK);
+        firstOfTwo(WHOLE_WRITE, MAY_COME_IN_WRITE);
         Due.fault(x, ASK.repeat(8) + "ask ask", 2, 152);
         Due.fault(x, ASK.repeat(7) + "ask share ask; " + ASK + ASK, 1, 143);
         Due.fault(x, FOUR + " and 0 == 1 and 1 == 1; x", 2, 69);
         Due.fault(x, FOUR + " and 0 x", 2, 69);
         Due.fault(x, "ask share 1 x from 0 where 0 == 1 and 0 == 1 and 0 == 1 and 0 == 1 and 0 == 1", 1, 12);
+    }
+
+    /** What begins or ends a DEED where it may not, and another FAULT behind it. */
+    private static void firstOfTwo(String[] whole, String[] mayCome) {
+        StringBuilder ahead = new StringBuilder(whole[0]).append(' ');
+        for (int n = 1; n < whole.length; n++) {
+            Due.fault(told(), ahead + "ask share 1 from 0; x", 1, ahead.length());
+            Due.fault(told(), ahead + "write x", 1, ahead.length());
+            if (!mayCome[n].contains(";")) {
+                Due.fault(told(), ahead + "; x", 1, ahead.length());
+            }
+            ahead.append(whole[n]).append(' ');
+        }
     }
 
     private static void endOfTheText() {
