@@ -198,7 +198,7 @@ public final class TunerGame {
     }
 
     public int play(int move) {
-        if (move < 0 || move >= moveCount || isIn(move, playedSet(playedCount))) {
+        if (move < 0 || move >= moveCount || playedCount >= MOST_MOVES || isIn(move, playedSet(playedCount))) {
             return NONE;
         }
         if (!isAffordable(playedSet(playedCount) | 1 << move)) {
@@ -332,7 +332,9 @@ public final class TunerGame {
     /** Measured when something is told, so that going through all sets of MOVES only adds and compares. */
     private void measureDeeds() {
         for (int k = 0; k < deedCount; k++) {
-            plans[k].measure(deeds[k], tables, moves, moveCount);
+            if (isTable(deeds[k].table)) {
+                plans[k].measure(deeds[k], tables, moves, moveCount);
+            }
         }
     }
 
@@ -534,12 +536,15 @@ public final class TunerGame {
             tallies[column * (MOST_VALUE + 1) + value]++;
         }
 
+        /** A text's COLUMNS are held against their TABLE when it is read; no state may throw, so the place is looked at too. */
         int valueAt(int row, int column) {
-            return values[row * MOST_COLUMNS + column];
+            int at = row * MOST_COLUMNS + column;
+            return at >= 0 && at < values.length ? values[at] : 0;
         }
 
         int rowsWith(int column, int value) {
-            return tallies[column * (MOST_VALUE + 1) + value];
+            int at = column * (MOST_VALUE + 1) + value;
+            return at >= 0 && at < tallies.length ? tallies[at] : 0;
         }
 
         int pages() {
@@ -707,7 +712,7 @@ public final class TunerGame {
             ordered = deed.order != NONE;
             found = deed.rowsFor(own, deed.allConds());
             measureIndexes(deed, own, moves, moveCount);
-            joins = deed.other != NONE;
+            joins = deed.other >= 0 && deed.other < tables.length;
             if (joins) {
                 measureJoin(deed, own, tables[deed.other]);
                 findJoinMoves(deed, moves, moveCount);
